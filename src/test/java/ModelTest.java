@@ -11,7 +11,9 @@ import java.util.Map;
  */
 public final class ModelTest {
     private static final int RUNS = 300;
-    private static final int CALLS = 512;
+    /** With the digest at the end, the 512 that the document promises. */
+    private static final int CALLS = 511;
+    private static final int MOST_TOLD = 20;
     private static final int[] STRANGE = {-1, Integer.MIN_VALUE, Integer.MAX_VALUE, 100};
 
     private static final int[][] WAYS = {{0, 1, 2, 3}, {0, 3, 7, 4}, {0, 4, 5, 1}};
@@ -489,28 +491,32 @@ public final class ModelTest {
         }
     }
 
-    /** Every cube up to five turns away: far() and first() for each most. */
-    private static void allNearCubes(CornerCube x, Cube cube, int left, int lastFace) {
+    /** Every cube up to so many turns away, each on an object of its own: far() and first() for each most. */
+    private static void allNearCubes(List<Integer> turns, Cube cube, int left) {
+        CornerCube x = new CornerCube();
+        for (int turn : turns) {
+            x.turn(turn / 3, turn % 3 + 1);
+        }
         for (int most = 0; most <= 5; most++) {
             if (x.far(most) != cube.far(most) || x.first(most) != cube.first(most)) {
                 wrong++;
-                System.out.println("far or first(" + most + ") of " + cube.key() + " is not as due");
+                System.out.println("far or first(" + most + ") behind the turns " + turns + " is not as due");
             }
         }
-        for (int turn = 0; left > 0 && turn < 9; turn++) {
-            if (turn / 3 != lastFace) {
-                x.turn(turn / 3, turn % 3 + 1);
-                allNearCubes(x, cube.turned(turn), left - 1, turn / 3);
-                x.turn(turn / 3, 3 - turn % 3);
+        for (int turn = 0; left > 0 && wrong < MOST_TOLD && turn < 9; turn++) {
+            if (turns.isEmpty() || turn / 3 != turns.get(turns.size() - 1) / 3) {
+                List<Integer> more = new ArrayList<>(turns);
+                more.add(turn);
+                allNearCubes(more, cube.turned(turn), left - 1);
             }
         }
     }
 
     public static void main(String[] args) {
-        for (int run = 0; run < RUNS && wrong < 20; run++) {
+        for (int run = 0; run < RUNS && wrong < MOST_TOLD; run++) {
             run(run);
         }
-        allNearCubes(new CornerCube(), new Cube(), 4, -1);
+        allNearCubes(new ArrayList<>(), new Cube(), 4);
         System.out.println(wrong == 0 ? "all answers are those of the model" : wrong + " runs are not as due");
         if (wrong != 0) {
             System.exit(1);

@@ -332,6 +332,8 @@ public final class PromisesTest {
         countsAre("top twice", turnedBy(1), 1, 4, 4, 8, 0, 2, 0);
         countsAre("right", turnedBy(3), 1, 4, 4, 4, 1, 4, 0);
         countsAre("top, right", turnedBy(0, 3), 2, 2, 3, 4, 0, 15, 0);
+        // A ring of three and one of four, both twisted: the greatest order there is.
+        due("count(5) of the greatest order", 36, turnedBy(0, 5, 6, 4).count(5));
         CornerCube x = withWord(0, 3, 8);
         sayAll(x, 4, 0, 1, 2);
         x.play(0, 15);
@@ -530,6 +532,10 @@ public final class PromisesTest {
         due("would(0, 3) of two turns", 4, x.would(0, 3));
         due("would(1, 3) of two turns", 4, x.would(1, 3));
         due("advise() of two turns, where 2 and 5 are as good", 2, x.advise());
+        CornerCube y = turnedBy(0, 4, 2);
+        due("count(1) of top, right by a half, top back", 4, y.count(1));
+        due("would(1, 1) of it, with fewer right", 3, y.would(1, 1));
+        due("advise() of it", 3, y.advise());
         due("digest() behind advise()", before, x.digest());
     }
 
