@@ -13,6 +13,7 @@ public final class CornerCube {
     private static final int QUARTERS = 4;
     private static final int TURNS_OF_FACE = 3;
     private static final int TURNS = 9;
+    private static final int RING_PLACES = 4;
     private static final int WORDS = 5;
     private static final int LONGEST_WORD = 12;
     private static final int MOST_TIMES = 50;
@@ -282,18 +283,12 @@ public final class CornerCube {
             }
         }
         for (int word = 0; word < WORDS; word++) {
-            d = digestOfWord(d, word);
-        }
-        return d;
-    }
-
-    private long digestOfWord(long before, int word) {
-        long d = before;
-        for (int what = 0; what < WORD_FACTS; what++) {
-            d = d * 31 + word(word, what);
-        }
-        for (int i = 0; i < lengths[word]; i++) {
-            d = d * 31 + turnsOf[word][i];
+            for (int what = 0; what < WORD_FACTS; what++) {
+                d = d * 31 + word(word, what);
+            }
+            for (int i = 0; i < lengths[word]; i++) {
+                d = d * 31 + turnsOf[word][i];
+            }
         }
         return d;
     }
@@ -486,28 +481,41 @@ public final class CornerCube {
     }
 
     private static long quarterTurned(long cube, int face) {
-        switch (face) {
-            case 0:
-                return gone(cube, TOP_RING, TOP_TWIST);
-            case 1:
-                return gone(cube, RIGHT_RING, RIGHT_TWIST);
-            default:
-                return gone(cube, FRONT_RING, FRONT_TWIST);
-        }
-    }
-
-    private static long gone(long cube, int ring, int moreTwist) {
+        int ring = ringOf(face);
+        int moreTwist = moreTwistOf(face);
         long now = cube;
-        for (int i = 0; i < 4; i++) {
+        for (int i = 0; i < RING_PLACES; i++) {
             int from = hexDigit(ring, i);
-            int to = hexDigit(ring, (i + 1) % 4);
+            int to = hexDigit(ring, (i + 1) % RING_PLACES);
             now = withCorner(now, to, cornerAt(cube, from), twistAt(cube, from) + hexDigit(moreTwist, i));
         }
         return now;
     }
 
+    private static int ringOf(int face) {
+        switch (face) {
+            case 0:
+                return TOP_RING;
+            case 1:
+                return RIGHT_RING;
+            default:
+                return FRONT_RING;
+        }
+    }
+
+    private static int moreTwistOf(int face) {
+        switch (face) {
+            case 0:
+                return TOP_TWIST;
+            case 1:
+                return RIGHT_TWIST;
+            default:
+                return FRONT_TWIST;
+        }
+    }
+
     private static int hexDigit(int fourDigits, int at) {
-        return (fourDigits >> (4 * (3 - at))) & 15;
+        return (fourDigits >> (4 * (RING_PLACES - 1 - at))) & 15;
     }
 
     private static long behindDeed(long cube, long deed) {
