@@ -516,7 +516,7 @@ public final class ModelTest {
         for (int run = 0; run < RUNS && wrong < MOST_TOLD; run++) {
             run(run);
         }
-        allNearCubes(new ArrayList<>(), new Cube(), 4);
+        allNearCubes(new ArrayList<>(), new Cube(), 5);
         System.out.println(wrong == 0 ? "all answers are those of the model" : wrong + " runs are not as due");
         if (wrong != 0) {
             System.exit(1);
